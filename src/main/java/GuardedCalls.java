@@ -37,7 +37,7 @@ public final class GuardedCalls {
     private static final int SUPPLIER_FAILED_SECOND_WAY = 53;
 
     /** Far above what the clock can reach in 512 calls. */
-    private static final int NO_DEADLINE = Integer.MAX_VALUE;
+    private static final int NO_DEADLINE = 2147483647;
 
     private final Events events;
     private final Clock clock;

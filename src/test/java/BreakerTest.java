@@ -11,6 +11,7 @@ public final class BreakerTest {
         refusedTripsChangesNothing();
         windowKeepsTheLastCalls();
         ratesAreOfAllInTheWindow();
+        emptyWindowForgetsAll();
         leastCallsAreNeeded();
         waitIsCountedFromTheOpening();
         trialsDecide();
@@ -52,6 +53,7 @@ public final class BreakerTest {
         Check.due("breaker(4, 2, 10, 2)", x.breaker(4, 2, 10, 2), true);
         Check.due("window is empty", x.tell(1), 0);
         Check.due("failing()", x.failing(), -1.0);
+        Check.due("sluggish()", x.sluggish(), -1.0);
 
         x = opened();
         Check.due("pass(10)", x.pass(10), true);
@@ -193,6 +195,18 @@ public final class BreakerTest {
         Check.dueCall("good", x, 0);
         Check.dueCall("good", x, 0);
         return x;
+    }
+
+    private static void emptyWindowForgetsAll() {
+        GuardedCalls x = Check.with(0);
+        Check.outcomes(x, 1, 1, 5, 0);
+        Check.dueCall("failed and slow", x, Check.IAE);
+        Check.due("rates", x.failing() + " " + x.sluggish(), "100.0 100.0");
+        Check.due("breaker(4, 4, 0, 1)", x.breaker(4, 4, 0, 1), true);
+        for (int n = 1; n <= 4; n++) {
+            Check.dueCall("good", x, 0);
+            Check.due("rates", x.failing() + " " + x.sluggish(), "0.0 0.0");
+        }
     }
 
     private static void leastCallsAreNeeded() {

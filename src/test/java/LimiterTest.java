@@ -4,6 +4,7 @@ public final class LimiterTest {
         refusesWrongInputs();
         refusedChangesNothing();
         takesTheEdges();
+        everyTickIsACycle();
         settingBeginsTheCycleNow();
         leftIsAsOfTheLastCall();
         aLaterCycleFillsUp();
@@ -53,6 +54,19 @@ public final class LimiterTest {
         Check.dueCall("waits 50", x, 0);
         Check.due("clock", x.tell(7), 50);
         Check.due("LEFT", x.tell(4), 4);
+    }
+
+    private static void everyTickIsACycle() {
+        GuardedCalls x = Check.with(2);
+        Check.due("pass(3)", x.pass(3), true);
+        Check.due("limiter(1, 1, 1)", x.limiter(1, 1, 1), true);
+        for (int n = 0; n < 4; n++) {
+            Check.dueCall("permit", x, 0);
+            Check.due("clock", x.tell(7), 3 + n);
+        }
+        Check.due("pass(1)", x.pass(1), true);
+        Check.dueCall("no waiting", x, 0);
+        Check.dueEvents("every tick", x, "51 51 22 51 22 51 22 51");
     }
 
     private static void settingBeginsTheCycleNow() {
