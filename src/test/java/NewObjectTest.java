@@ -6,6 +6,7 @@ public final class NewObjectTest {
         breakerTripsFromLeast2();
         breakerWaits10AndTakes2Trials();
         breakerIsTrippedBySlowness();
+        breakerIsNotTrippedBelowItsRates();
         capacityIs2();
         limiterHas2PermitsIn10Ticks();
         limiterHasPatienceFor5();
@@ -80,6 +81,25 @@ public final class NewObjectTest {
         Check.dueCall("slow 1", x, 0);
         Check.dueCall("slow 2", x, 0);
         Check.due("open at 100.0 slow", x.tell(0), 1);
+    }
+
+    /** The nearest rates that there are below FAILURES 50.0 and SLUGGISH 100.0: 3 of 7, and 7 of 8. */
+    private static void breakerIsNotTrippedBelowItsRates() {
+        GuardedCalls x = Check.with(0);
+        Check.due("breaker(7, 7, 0, 1)", x.breaker(7, 7, 0, 1), true);
+        Check.outcomes(x, 3, 1, 0, 0);
+        for (int n = 1; n <= 7; n++) {
+            Check.dueCall("call " + n, x, n <= 3 ? Check.IAE : "0");
+        }
+        Check.due("closed at 42.9 failed", x.tell(0), 0);
+
+        x = Check.with(0);
+        Check.due("breaker(8, 8, 0, 1)", x.breaker(8, 8, 0, 1), true);
+        Check.outcomes(x, 7, 0, 5, 0);
+        for (int n = 1; n <= 8; n++) {
+            Check.dueCall("call " + n, x, 0);
+        }
+        Check.due("closed at 87.5 slow", x.tell(0), 0);
     }
 
     private static void capacityIs2() {
