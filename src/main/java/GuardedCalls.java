@@ -252,6 +252,7 @@ public final class GuardedCalls {
                 return goThroughLimiter(level, deadline);
             case RETRY:
                 return goThroughRetry(level, deadline);
+            case TIMER:
             default:
                 return goThroughTimer(level);
         }
